@@ -1,3 +1,6 @@
+import java.lang.reflect.Array;
+import java.lang.reflect.Field;
+
 /** Promises 17 and 18: holds, refutes. */
 public final class WorldTest {
     public static void main(String[] args) {
@@ -7,6 +10,7 @@ public final class WorldTest {
         nested();
         firstAndNow();
         refutes();
+        refuted();
         Calls.end();
     }
 
@@ -217,5 +221,52 @@ public final class WorldTest {
             erase 0 0 -> 3
             refutes 2 -> -1
             """);
+    }
+
+    /**
+     * No move leads to a sheet that does not follow from the first one, so that the worlds which refutes looks for
+     * are only found when the first sheet is exchanged from outside.
+     */
+    private static void refuted() {
+        refuted("empty", "sign 0", "start", "spot 0 0 0 0; start", "0 0");
+        refuted("sign 0", "sign 1", "spot 0 0 0 0; start", "spot 0 1 0 0; start", "1 1");
+        refuted("sign 1", "sign 0 and 1", "spot 0 1 0 0; start", "spot 0 1 0 0; spot 0 0 0 0; start", "2 2");
+        refuted("something is so", "sign 0", "line 0; spot 0 2 0 0; start", "spot 0 0 0 0; start", "4 4");
+        refuted("something is so", "all is so", "line 0; spot 0 2 0 0; start",
+                "cut 0; line 1; cut 1; spot 2 2 0 0; start", "-1 4");
+        refuted("all is so", "something is with itself", "cut 0; line 1; cut 1; spot 2 2 0 0; start",
+                "line 0; spot 0 3 0 0; start", "4 12");
+        refuted("something is with something", "something is with itself", "line 0; line 0; spot 0 3 0 1; start",
+                "line 0; spot 0 3 0 0; start", "-1 64");
+        refuted("all are with all", "nothing is with itself",
+                "cut 0; line 1; line 1; cut 1; spot 2 3 0 1; start",
+                "cut 0; line 1; spot 1 3 0 0; start", "32 864");
+        refuted("sign 0 and 1", "sign 0", "spot 0 0 0 0; spot 0 1 0 0; start", "spot 0 0 0 0; start", "-1 -1");
+    }
+
+    private static void refuted(String first, String now, String firstCalls, String nowCalls, String want) {
+        CutSheets x = drawn(nowCalls);
+        x.wrap(2, 0);
+        exchangeFirst(x, drawn(firstCalls));
+        Calls.due("promise 18: first " + first + ", now " + now, "refutes 1, refutes 2",
+                x.refutes(1) + " " + x.refutes(2), want);
+    }
+
+    private static CutSheets drawn(String calls) {
+        CutSheets x = new CutSheets();
+        for (String call : calls.split("; ")) {
+            Calls.answer(x, call);
+        }
+        return x;
+    }
+
+    private static void exchangeFirst(CutSheets x, CutSheets other) {
+        try {
+            Field sheets = CutSheets.class.getDeclaredField("sheets");
+            sheets.setAccessible(true);
+            Array.set(sheets.get(x), 0, Array.get(sheets.get(other), 0));
+        } catch (ReflectiveOperationException e) {
+            throw new AssertionError(e);
+        }
     }
 }
