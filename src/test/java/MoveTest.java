@@ -9,6 +9,7 @@ public final class MoveTest {
         uncopySpots();
         uncopyCuts();
         wrap();
+        wrapRoom();
         unwrap();
         join();
         sever();
@@ -217,6 +218,25 @@ public final class MoveTest {
             copy 0 1 3 -> 4
             tokens 3 -> 102 13 102 101 12 101
             """);
+        Calls.script("promise 7: what an earlier copy put in the place of a line is forgotten", """
+            cut 0 -> 1
+            line 1 -> 0
+            spot 1 2 0 0 -> 0
+            start -> ok
+            copy 1 1 0 -> 2
+            tokens 2 -> 101 12 101
+            copy 0 0 1 -> 2
+            tokens 1 -> 100 12 100 12 100
+            """);
+        Calls.script("promise 7: a cut in one of a greater number comes along", """
+            cut 0 -> 1
+            spot 1 0 0 0 -> 0
+            start -> ok
+            wrap 1 1 -> 2
+            copy 1 2 0 -> 4
+            tokens 4 -> 1 1 10 2 2
+            tokens 6 -> 10
+            """);
     }
 
     private static void copyRoom() {
@@ -278,6 +298,9 @@ public final class MoveTest {
             copy 0 0 0 -> ISE
             count 0 -> 3
             count 3 -> 1
+            erase 0 8 -> 2
+            copy 0 0 2 -> 8
+            copy 0 0 2 -> UOE
             """);
     }
 
@@ -496,6 +519,25 @@ public final class MoveTest {
             """);
     }
 
+    private static void wrapRoom() {
+        StringBuilder ten = new StringBuilder();
+        for (int cut = 1; cut <= 10; cut++) {
+            ten.append("cut 0 -> ").append(cut).append('\n');
+        }
+        Calls.script("promise 9: two numbers are enough", ten + """
+            start -> ok
+            wrap 2 0 -> 11
+            tokens 11 -> 1 2
+            wrap 2 0 -> UOE
+            erase 1 1 -> 2
+            wrap 2 0 -> UOE
+            wrap 1 2 -> UOE
+            erase 1 3 -> 3
+            wrap 1 2 -> 1
+            tokens 1 -> 1 1 2 2
+            """);
+    }
+
     private static void unwrap() {
         Calls.script("promise 10: nothing but one cut, and no line", """
             cut 0 -> 1
@@ -551,6 +593,35 @@ public final class MoveTest {
             depth 3 -> 1
             depth 4 -> 2
             line 3 -> 2
+            """);
+        Calls.script("promise 10: the inner cut may have the lesser number", """
+            cut 0 -> 1
+            cut 0 -> 2
+            spot 2 0 0 0 -> 0
+            start -> ok
+            erase 1 1 -> 1
+            cut 2 -> 1
+            copy 0 0 1 -> 1
+            wrap 1 2 -> 3
+            erase 1 3 -> 5
+            back -> 4
+            unwrap 3 -> 5
+            unwrap 2 -> ISE
+            uncopy 0 0 -> ISE
+            wrap 2 1 -> 3
+            cut 3 -> 5
+            tokens 0 -> 1 10 1 10 1 1 2 1 2 2 2 2
+            """);
+        Calls.script("promise 10: an inner cut of the least number is found", """
+            cut 0 -> 1
+            cut 0 -> 2
+            start -> ok
+            erase 1 1 -> 1
+            cut 2 -> 1
+            wrap 2 1 -> 3
+            unwrap 2 -> 4
+            tokens 0 -> 1 1 2 2
+            depth 1 -> IAE
             """);
     }
 

@@ -241,6 +241,9 @@ public final class WorldTest {
         refuted("all are with all", "nothing is with itself",
                 "cut 0; line 1; line 1; cut 1; spot 2 3 0 1; start",
                 "cut 0; line 1; spot 1 3 0 0; start", "32 864");
+        refuted("all that there is", "an empty cut",
+                "spot 0 0 0 0; spot 0 1 0 0; cut 0; line 1; line 1; cut 1; spot 2 2 0 0; spot 2 3 0 1; start",
+                "cut 0; start", "39 879");
         refuted("sign 0 and 1", "sign 0", "spot 0 0 0 0; spot 0 1 0 0; start", "spot 0 0 0 0; start", "-1 -1");
     }
 
