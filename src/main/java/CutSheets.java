@@ -452,17 +452,18 @@ public final class CutSheets {
 
         void remove(int kind, int number) {
             if (kind == CUT) {
-                removeAllIn(areasWithin(number));
+                putAll(areasWithin(number), NONE);
             }
             put(kind, number, NONE);
         }
 
-        private void removeAllIn(int gone) {
+        /** All that lies in some areas comes into another one, or goes where that is NONE. */
+        private void putAll(int from, int to) {
             for (int kind = 0; kind < KINDS; kind++) {
                 int[] row = areas(kind);
                 for (int number = 0; number < row.length; number++) {
-                    if (isAmong(gone, row[number])) {
-                        row[number] = NONE;
+                    if (isAmong(from, row[number])) {
+                        row[number] = to;
                     }
                 }
             }
@@ -487,22 +488,11 @@ public final class CutSheets {
             int area = areaOf(CUT, outer);
             for (int inner = 1; inner < AREAS; inner++) {
                 if (cutArea[inner] == outer) {
-                    putAll(inner, area);
+                    putAll(1 << inner, area);
                     put(CUT, inner, NONE);
                 }
             }
             put(CUT, outer, NONE);
-        }
-
-        private void putAll(int from, int to) {
-            for (int kind = 0; kind < KINDS; kind++) {
-                int[] row = areas(kind);
-                for (int number = 0; number < row.length; number++) {
-                    if (row[number] == from) {
-                        row[number] = to;
-                    }
-                }
-            }
         }
 
         boolean hasRoomForCopy(int kind, int number) {
