@@ -6,7 +6,7 @@ import java.util.Arrays;
 import java.util.Set;
 import java.util.TreeSet;
 
-/** The public face: what the document lists, and nothing else that can be seen from outside (LANGUAGE.md, rules 1, 5). */
+/** The public face: what the document lists, and nothing else that can be seen from outside (LANGUAGE.md, 1 and 5). */
 public final class FaceTest {
     private static final String IAE = "IllegalArgumentException";
     private static final String ISE = "IllegalStateException";
@@ -31,16 +31,18 @@ public final class FaceTest {
             Calls.due("face", inside.getName() + " is static",
                     Boolean.toString(Modifier.isStatic(inside.getModifiers())), "true");
             fields(inside);
+            for (Method method : inside.getDeclaredMethods()) {
+                Calls.due("face", method + " bears the name of one of the face",
+                        Boolean.toString(names().contains(method.getName())), "false");
+            }
         }
         Calls.end();
     }
 
     private static Set<String> methods(Class<?> face) {
         Set<String> found = new TreeSet<>();
-        Set<String> names = new TreeSet<>();
-        FACE.forEach(row -> names.add(row.replaceAll("\\(.*", "").replaceAll(".* ", "")));
         for (Method method : face.getDeclaredMethods()) {
-            if (Modifier.isPrivate(method.getModifiers()) && !names.contains(method.getName())) {
+            if (Modifier.isPrivate(method.getModifiers()) && !names().contains(method.getName())) {
                 continue;
             }
             StringBuilder row = new StringBuilder(Modifier.isPublic(method.getModifiers()) ? "" : "not public: ");
@@ -53,6 +55,12 @@ public final class FaceTest {
             found.add(row.toString());
         }
         return found;
+    }
+
+    private static Set<String> names() {
+        Set<String> names = new TreeSet<>();
+        FACE.forEach(row -> names.add(row.replaceAll("\\(.*", "").replaceAll(".* ", "")));
+        return names;
     }
 
     private static void fields(Class<?> owner) {

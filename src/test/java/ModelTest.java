@@ -5,8 +5,11 @@ import java.util.TreeMap;
 
 /** All promises: long runs of calls, the same ones each time, on CutSheets and on the Model, must answer alike. */
 public final class ModelTest {
-    private static final int RUNS = 300;
-    private static final int CALLS = 250;
+    private static final int RUNS = 1500;
+    /** So many calls are left for the last of a run, which may read a full sheet twice. */
+    private static final int LEFT = 140;
+    /** The whole sheet is read after so many calls; after the others it is only asked how long it is. */
+    private static final int WHOLE = 12;
     private static final String[] OUTCOMES = {
         "cut done IAE ISE UOE", "line done IAE ISE UOE", "spot done IAE ISE UOE", "start done ISE",
         "erase done IAE ISE UOE", "copy done IAE ISE UOE", "uncopy done IAE ISE UOE", "wrap done IAE ISE UOE",
@@ -32,15 +35,18 @@ public final class ModelTest {
     private static void oneRun(int run, Random random) {
         CutSheets x = new CutSheets();
         Model model = new Model();
-        int drawing = random.nextInt(50);
-        for (int i = 0; i < CALLS; i++) {
+        int drawing = random.nextInt(40);
+        int used = 0;
+        for (int i = 0; used <= Calls.MOST - LEFT; i++) {
             String call = i < drawing ? drawCall(model, random) : i == drawing ? "start" : anyCall(model, random);
+            String look = i % WHOLE == 0 ? "tokens 0" : "read 0";
             String got = Calls.answer(x, call);
             String want = Calls.answer(model, call);
+            String sheet = Calls.answer(x, look);
             Calls.due("run " + run + ", call " + i, call, got, want);
+            Calls.due("run " + run + ", after call " + i, call, sheet, Calls.answer(model, look));
             note(call, want);
-            String sheet = Calls.answer(x, "tokens 0");
-            Calls.due("run " + run + ", after call " + i, call, sheet, Calls.answer(model, "tokens 0"));
+            used += Calls.cost(call, got) + Calls.cost(look, sheet);
             if (!got.equals(want)) {
                 return;
             }
@@ -49,8 +55,8 @@ public final class ModelTest {
 
     private static void note(String call, String answer) {
         String method = call.split(" ")[0];
-        seen.merge(method + " " + (answer.matches("[A-Z]+") ? answer : "done"), 1, Integer::sum);
-        if (method.equals("refutes") && !answer.matches("[A-Z]+")) {
+        seen.merge(method + " " + (Calls.isRefusal(answer) ? answer : "done"), 1, Integer::sum);
+        if (method.equals("refutes") && !Calls.isRefusal(answer)) {
             Calls.due("ModelTest", "a sheet follows from the first one", answer, "-1");
         }
     }
@@ -106,12 +112,14 @@ public final class ModelTest {
             case 25, 26, 27 -> "unwrap " + number(model, random, 1);
             case 28, 29, 30 -> "join " + number(model, random, 2) + " " + number(model, random, 2);
             case 31, 32 -> "sever " + number(model, random, 2) + " " + area(model, random);
-            case 33, 34, 35 -> "back";
+            case 33 -> "back";
+            case 34 -> spotCall(model, random);
+            case 35 -> "line " + area(model, random);
             case 36 -> "depth " + area(model, random);
             case 37 -> "tokens " + area(model, random);
             case 38 -> "count " + (random.nextInt(6) - 1);
             case 39 -> random.nextInt(3) == 0 ? "refutes " + random.nextInt(4) : "tokens " + area(model, random);
-            case 40 -> random.nextInt(8) == 0 ? "start" : "back";
+            case 40 -> random.nextInt(8) == 0 ? "start" : "cut " + area(model, random);
             default -> "holds " + random.nextBoolean() + " " + random.nextInt(5) + " "
                     + (random.nextInt(16380) - random.nextInt(3) + random.nextInt(6));
         };
