@@ -531,12 +531,16 @@ public final class CutSheets {
                     copySpot(spot, made, standsFor);
                 }
             }
+            copyCutsIn(cut, made, standsFor, level);
+            return made;
+        }
+
+        private void copyCutsIn(int cut, int made, int[] standsFor, int level) {
             for (int inner = 1; inner < AREAS; inner++) {
                 if (cutArea[inner] == cut) {
                     copyCut(inner, made, standsFor, level + 1);
                 }
             }
-            return made;
         }
     }
 
@@ -605,6 +609,10 @@ public final class CutSheets {
                     addSpot(sheet, spot);
                 }
             }
+            addCutsIn(sheet, area, level);
+        }
+
+        private void addCutsIn(Sheet sheet, int area, int level) {
             for (int cut = 1; cut < AREAS; cut++) {
                 if (sheet.cutArea[cut] == area) {
                     add(OPENED);
@@ -622,7 +630,8 @@ public final class CutSheets {
         }
 
         private void addLine(Sheet sheet, int line) {
-            if (!isAmong(innerAreas, sheet.lineArea[line])) {
+            int outer = line == NONE ? NONE : sheet.lineArea[line];
+            if (!isAmong(innerAreas, outer)) {
                 add(NUMBERED + line);
                 return;
             }
@@ -740,8 +749,13 @@ public final class CutSheets {
             if (sign < 2) {
                 return sign;
             }
-            int x = thingOf[hooks[2 * spot]];
-            return sign == 2 ? bitOfOne(x) : bitOfTwo(x, thingOf[hooks[2 * spot + 1]]);
+            int x = thingAt(2 * spot);
+            return sign == 2 ? bitOfOne(x) : bitOfTwo(x, thingAt(2 * spot + 1));
+        }
+
+        private int thingAt(int hook) {
+            int line = hooks[hook];
+            return line == NONE ? 0 : thingOf[line];
         }
 
         private boolean areCutsFalse(int area, int level) {
